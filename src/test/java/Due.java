@@ -1,0 +1,45 @@
+/** Compares answers with those that are due, prints each that differs, and ends the test. */
+final class Due {
+    private int asked = 0;
+    private int wrong = 0;
+
+    /** A call that may throw. */
+    interface Call {
+        long ask();
+    }
+
+    void is(String call, long got, long want) {
+        check(call, Long.toString(got), Long.toString(want));
+    }
+
+    void isThrown(String call, Class<? extends RuntimeException> want, Call made) {
+        check(call, outcome(made), "throws." + want.getSimpleName());
+    }
+
+    void check(String call, String got, String want) {
+        asked++;
+        if (!got.equals(want)) {
+            wrong++;
+            System.out.println(call + " answered " + got + ", due is " + want);
+        }
+    }
+
+    static String outcome(Call made) {
+        try {
+            return Long.toString(made.ask());
+        } catch (RuntimeException e) {
+            return "throws." + e.getClass().getSimpleName();
+        }
+    }
+
+    int wrong() {
+        return wrong;
+    }
+
+    void end() {
+        System.out.println(asked + " answers looked at, " + wrong + " not as due");
+        if (wrong != 0 || asked == 0) {
+            System.exit(1);
+        }
+    }
+}
