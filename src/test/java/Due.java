@@ -1,7 +1,17 @@
 /** Compares answers with those that are due, prints each that differs, and ends the test. */
 final class Due {
+    private final String about;
     private int asked = 0;
     private int wrong = 0;
+
+    Due() {
+        this("");
+    }
+
+    /** Begins each line that it prints with what the answers are about. */
+    Due(String about) {
+        this.about = about;
+    }
 
     /** A call that may throw. */
     interface Call {
@@ -20,7 +30,7 @@ final class Due {
         asked++;
         if (!got.equals(want)) {
             wrong++;
-            System.out.println(call + " answered " + got + ", due is " + want);
+            System.out.println(about + call + " answered " + got + ", due is " + want);
         }
     }
 
@@ -36,9 +46,14 @@ final class Due {
         return wrong;
     }
 
+    /** A test that looked at nothing has not shown that anything holds. */
+    boolean isMet() {
+        return wrong == 0 && asked > 0;
+    }
+
     void end() {
         System.out.println(asked + " answers looked at, " + wrong + " not as due");
-        if (wrong != 0 || asked == 0) {
+        if (!isMet()) {
             System.exit(1);
         }
     }

@@ -39,28 +39,6 @@ public final class PromisesTest {
         DUE.end();
     }
 
-    /** Two things of list 0: grade 3 with feature 0 of 5, grade 1 with 2. Their pushes are 2 and -2. */
-    private static PairedTrees two() {
-        PairedTrees x = new PairedTrees();
-        x.thing(0, 3);
-        x.thing(0, 1);
-        x.feature(0, 0, 5);
-        x.feature(1, 0, 2);
-        return x;
-    }
-
-    /** Grades 1, 2, 0 with feature 0 of 20, 10, 30: pushes 0, 3, -3, and cuts at 10 and 20 gain the same. */
-    private static PairedTrees three() {
-        PairedTrees x = new PairedTrees();
-        int[] grades = {1, 2, 0};
-        int[] numbers = {20, 10, 30};
-        for (int i = 0; i < 3; i++) {
-            x.thing(0, grades[i]);
-            x.feature(i, 0, numbers[i]);
-        }
-        return x;
-    }
-
     private static void isNew(String when, PairedTrees x) {
         for (int what : new int[] {0, 1, 2, 10, 11, 12, 13}) {
             DUE.is(when + " about " + what, x.about(what), 0);
@@ -255,14 +233,7 @@ public final class PromisesTest {
     }
 
     private static void growByDepth() {
-        PairedTrees x = new PairedTrees();
-        int[] lists = {1, 0, 0, 1, 1, 0, 1, 0};
-        int[] grades = {4, 4, 3, 2, 1, 1, 0, 0};
-        for (int i = 0; i < 8; i++) {
-            x.thing(lists[i], grades[i]);
-            x.feature(i, 1, 100 * i);
-        }
-        // Pushes 9, 8, 4, 1, -3, -4, -7, -8: each node parts best in the middle.
+        PairedTrees x = Scenes.eight();
         int[][] values = {{55, -55}, {85, 25, -35, -75}, {90, 80, 40, 10, -30, -40, -70, -80}};
         for (int depth = 3; depth >= 1; depth--) {
             x.setting(2, depth);
@@ -278,7 +249,7 @@ public final class PromisesTest {
     }
 
     private static void growByEqualGains() {
-        PairedTrees x = three();
+        PairedTrees x = Scenes.three();
         x.setting(2, 1);
         x.setting(1, 1);
         DUE.is("a cut", x.grow(), 2);
@@ -289,7 +260,7 @@ public final class PromisesTest {
         DUE.is("left 3 / 1", x.node(0, 1, 4), 3);
         DUE.is("right -3 / 2, rounded down", x.node(0, 2, 4), -2);
 
-        PairedTrees y = two();
+        PairedTrees y = Scenes.two();
         for (int f = 1; f < 4; f++) {
             y.feature(0, f, -900);
             y.feature(1, f, -1000);
@@ -312,7 +283,7 @@ public final class PromisesTest {
     }
 
     private static void growByMissing() {
-        PairedTrees x = two();
+        PairedTrees x = Scenes.two();
         x.miss(1, 0);
         // The one number, 5, goes left; what misses parts from it only to the right.
         DUE.is("a cut", x.grow(), 2);
@@ -338,7 +309,7 @@ public final class PromisesTest {
     }
 
     private static void growByMargin() {
-        PairedTrees x = two();
+        PairedTrees x = Scenes.two();
         x.grow();
         DUE.is("20 less -20 is not below 10", x.grow(), 1);
         DUE.is("value 0", x.node(1, 0, 4), 0);
@@ -351,7 +322,7 @@ public final class PromisesTest {
     }
 
     private static void cut() {
-        PairedTrees x = two();
+        PairedTrees x = Scenes.two();
         DUE.is("no tree", x.cut(), STATE);
         x.grow();
         x.setting(0, 1000);
@@ -376,7 +347,7 @@ public final class PromisesTest {
     }
 
     private static void node() {
-        PairedTrees x = two();
+        PairedTrees x = Scenes.two();
         DUE.is("no tree", x.node(0, 0, 0), UNKNOWN);
         x.grow();
         int[] ofCut = {1, 0, 2, 0, OUTSIDE, 2, OUTSIDE};
@@ -404,7 +375,7 @@ public final class PromisesTest {
     }
 
     private static void gain() {
-        PairedTrees x = two();
+        PairedTrees x = Scenes.two();
         DUE.is("no tree", x.gain(0, 0, 0), UNKNOWN);
         x.grow();
         DUE.is("2 2 / 1 + 2 2 / 1 - 0, upper", x.gain(0, 0, 0), 8);
@@ -419,14 +390,14 @@ public final class PromisesTest {
         for (int tree : new int[] {LOWEST, -1, 1, HIGHEST}) {
             DUE.is("no tree " + tree, x.gain(tree, 0, 2), UNKNOWN);
         }
-        PairedTrees y = three();
+        PairedTrees y = Scenes.three();
         y.grow();
         DUE.is("the right node's cut, 9 + 0 - 9 / 2, upper", y.gain(0, 2, 0), 9);
         DUE.is("the right node's cut, lower", y.gain(0, 2, 1), 2);
     }
 
     private static void score() {
-        PairedTrees x = two();
+        PairedTrees x = Scenes.two();
         DUE.is("no trees", x.score(0), 0);
         x.setting(0, 100);
         x.grow();
@@ -447,7 +418,7 @@ public final class PromisesTest {
     }
 
     private static void value() {
-        PairedTrees x = two();
+        PairedTrees x = Scenes.two();
         DUE.is("no tree", x.value(0, 0), UNKNOWN);
         x.setting(0, 1000);
         x.grow();
@@ -468,7 +439,7 @@ public final class PromisesTest {
     }
 
     private static void push() {
-        PairedTrees x = three();
+        PairedTrees x = Scenes.three();
         x.thing(1, 4);
         x.thing(0, 1);
         // List 0 has grades 1, 2, 0, 1; of equal grades there is no pair.
@@ -479,7 +450,7 @@ public final class PromisesTest {
         for (int thing : new int[] {LOWEST, -2, NONE, 5, 24, HIGHEST}) {
             DUE.is("no thing " + thing, x.push(thing), UNKNOWN);
         }
-        PairedTrees y = two();
+        PairedTrees y = Scenes.two();
         y.setting(0, 0);
         DUE.is("0 less 0 is not below 0", y.push(0), 0);
         y.setting(0, 1);
@@ -495,7 +466,7 @@ public final class PromisesTest {
     }
 
     private static void ranked() {
-        PairedTrees x = three();
+        PairedTrees x = Scenes.three();
         x.thing(2, 0);
         for (int k = 0; k < 3; k++) {
             DUE.is("equal scores, place " + k, x.ranked(0, k), k);
@@ -517,7 +488,7 @@ public final class PromisesTest {
     }
 
     private static void pairs() {
-        PairedTrees x = three();
+        PairedTrees x = Scenes.three();
         x.thing(3, 0);
         x.thing(3, 4);
         x.thing(3, 4);
@@ -560,7 +531,7 @@ public final class PromisesTest {
         DUE.is("all wrong, of all", x.share(NONE), 1000);
         DUE.isThrown("no pairs in 2", none, () -> x.share(2));
 
-        PairedTrees y = three();
+        PairedTrees y = Scenes.three();
         y.setting(2, 1);
         y.grow();
         DUE.is("one of three, cut", y.share(0), 333);
@@ -579,7 +550,7 @@ public final class PromisesTest {
     }
 
     private static void about() {
-        PairedTrees x = two();
+        PairedTrees x = Scenes.two();
         x.setting(0, 1000);
         x.grow();
         x.feature(0, 3, 1);
@@ -596,7 +567,7 @@ public final class PromisesTest {
         for (int off : new int[] {LOWEST, -1, 3, 9, 14, HIGHEST}) {
             DUE.is("about " + off, x.about(off), OUTSIDE);
         }
-        PairedTrees y = three();
+        PairedTrees y = Scenes.three();
         y.feature(0, 2, 0);
         y.feature(2, 2, 1);
         y.grow();
@@ -605,7 +576,7 @@ public final class PromisesTest {
     }
 
     private static void clear() {
-        PairedTrees x = two();
+        PairedTrees x = Scenes.two();
         x.grow();
         for (int f = 0; f < 4; f++) {
             x.feature(NONE, f, 9);
