@@ -37,8 +37,7 @@ public final class ChangesBoundariesTest {
         due.is("the second has no trees", second.about(1), 0);
         second.thing(1, 1);
         second.clear();
-        due.is("the first keeps its things", first.about(0), 2);
-        due.is("the first keeps its trees", first.about(1), 1);
+        due.check("all that shows of the first", Scenes.allThatShows(first), Scenes.allThatShows(Scenes.busy()));
     }
 
     // ---- 2 thing

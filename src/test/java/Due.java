@@ -38,8 +38,14 @@ final class Due {
         try {
             return Long.toString(made.ask());
         } catch (RuntimeException e) {
-            return "throws." + e.getClass().getSimpleName();
+            return "throws." + e.getClass().getSimpleName() + (isOfTheMachine(e) ? " (the machine's)" : "");
         }
+    }
+
+    /** LANGUAGE.md, rule 7: what is thrown is thrown by a throw statement. The machine's own have these texts. */
+    private static boolean isOfTheMachine(RuntimeException e) {
+        String text = String.valueOf(e.getMessage());
+        return text.equals("/ by zero") || text.startsWith("Index ") || text.startsWith("Cannot ");
     }
 
     int wrong() {

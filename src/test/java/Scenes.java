@@ -60,6 +60,21 @@ final class Scenes {
         return x;
     }
 
+    /**
+     * Four lists of four; feature 0 of thing i is i. Pushes 9, 8, 7, 6, 4, 3, 2, 1, and the same below 0: each
+     * node parts best in the middle, and at depth 3 two things of unlike pushes are still together.
+     */
+    static PairedTrees sixteen() {
+        PairedTrees x = new PairedTrees();
+        int[] lists = {1, 2, 3, 0, 2, 3, 0, 1, 3, 0, 1, 2, 0, 1, 2, 3};
+        int[] grades = {4, 4, 4, 3, 3, 3, 2, 2, 2, 1, 1, 1, 0, 0, 0, 0};
+        for (int i = 0; i < 16; i++) {
+            x.thing(lists[i], grades[i]);
+            x.feature(i, 0, i);
+        }
+        return x;
+    }
+
     /** As many things as there may be, of all lists and grades. */
     static PairedTrees full() {
         PairedTrees x = new PairedTrees();

@@ -535,14 +535,17 @@ public final class TermsBoundariesTest {
 
     @Says(where = "Terms", sentence = "If the NODE lies less than DEPTH below NODE 0")
     static void depthsOfCuts(Due due) {
-        PairedTrees x = Scenes.eight();
+        PairedTrees x = Scenes.sixteen();
+        int[][] values = {{50, -50}, {75, 25, -25, -75}, {85, 65, 35, 15, -15, -35, -65, -85}};
         for (int depth = 1; depth <= 3; depth++) {
             x.setting(DEPTH, depth);
             int leaves = 1 << depth;
             due.is("leaves at depth " + depth, x.grow(), leaves);
-            due.is("the last cut one", x.node(0, leaves - 2, IS_CUT), 1);
-            due.is("the first leaf", x.node(0, leaves - 1, IS_CUT), 0);
-            due.is("the last leaf", x.node(0, 2 * leaves - 2, IS_CUT), 0);
+            due.is("the last one cut", x.node(0, leaves - 2, IS_CUT), 1);
+            for (int i = 0; i < leaves; i++) {
+                due.is("leaf " + i + " has more than one", x.node(0, leaves - 1 + i, HELD), 16 / leaves);
+                due.is("leaf " + i + " is not cut", x.node(0, leaves - 1 + i, VALUE), values[depth - 1][i]);
+            }
             due.is("nothing below", x.node(0, 2 * leaves - 1, IS_CUT), UNKNOWN);
             x.cut();
         }
