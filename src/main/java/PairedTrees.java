@@ -11,7 +11,7 @@ public final class PairedTrees {
     private static final int FEATURES = 4;
     private static final int FARTHEST_NUMBER = 1000;
     // No feature can be this number, so that a row needs no second array for what is missing.
-    private static final int MISSING = Integer.MIN_VALUE;
+    private static final int MISSING = -FARTHEST_NUMBER - 1;
     // The probe's features stand in the row behind those of the things.
     private static final int PROBE_ROW = MOST_THINGS;
     private static final int ROWS = MOST_THINGS + 1;
